@@ -45,8 +45,8 @@ public final class DerivativeMatcher {
     private final Line textLine = new Line(new char[TEXT_LIMIT], 0, TEXT_LIMIT);
     private final Line wordLine = new Line(ALL_WORDS.toCharArray(), LINE_LIMIT, WORD_LIMIT);
     private final Pattern[] patterns = new Pattern[] {new Pattern(), new Pattern()};
-    private final Reader reader = new Reader(buffer);
-    private final Machine machine = new Machine(textLine);
+    private final Reader reader = new Reader();
+    private final Machine machine = new Machine();
     private final char[] letters = new char[WORD_LIMIT];
     private int lettersKept = 0;
 
@@ -66,7 +66,7 @@ public final class DerivativeMatcher {
         if (!isPattern(p)) {
             return BAD;
         }
-        boolean right = reader.read(buffered);
+        boolean right = reader.read(buffer, buffered);
         buffered = 0;
         if (!right) {
             return WRONG_BASE - reader.place();
@@ -176,8 +176,13 @@ public final class DerivativeMatcher {
         return p == 0 || p == 1;
     }
 
+    /** Lengths are held as bits: bit k stands for the length k. */
     private static boolean has(int lengths, int length) {
         return (lengths >> length & 1) != 0;
+    }
+
+    private static int lengthsUpTo(int longest) {
+        return (1 << longest + 1) - 1;
     }
 
     /** The greatest of the lengths, or -1 when there is none. */
@@ -261,11 +266,6 @@ public final class DerivativeMatcher {
         int reach(int begin) {
             return Math.min(longestPart, length - begin);
         }
-
-        /** All lengths that a part that begins there can have. */
-        int allLengths(int begin) {
-            return (1 << reach(begin) + 1) - 1;
-        }
     }
 
     /** A pattern's program, and what it has answered since the pattern or the text changed. */
@@ -301,50 +301,52 @@ public final class DerivativeMatcher {
     /** Runs a program over a line; the rows of its stack are made once. */
     private static final class Machine {
         private final int[][] stack = new int[STACK_LIMIT][LINE_LIMIT + 1];
-        private Line line;
-
-        Machine(Line line) {
-            this.line = line;
-        }
 
         /** For each place the lengths of the parts that begin there and fit; good until the next run. */
-        int[] run(Program program, Line over) {
-            line = over;
+        int[] run(Program program, Line line) {
             int height = 0;
             for (int step = 0; step < program.size; step++) {
-                height = doStep(program.kinds[step], program.lows[step], program.highs[step], height);
+                int low = program.lows[step];
+                int high = program.highs[step];
+                switch (program.kinds[step]) {
+                    case EMPTY:
+                        putEmpty(line, stack[height]);
+                        height++;
+                        break;
+                    case RANGE:
+                        putRange(line, stack[height], low, high);
+                        height++;
+                        break;
+                    case JOIN:
+                        height--;
+                        join(line, stack[height - 1], stack[height]);
+                        break;
+                    case EITHER:
+                        height--;
+                        unite(line, stack[height - 1], stack[height]);
+                        break;
+                    case BOTH:
+                        height--;
+                        intersect(line, stack[height - 1], stack[height]);
+                        break;
+                    case NOT:
+                        complement(line, stack[height - 1]);
+                        break;
+                    default:
+                        repeat(line, stack[height - 1], stack[height], low, high);
+                        break;
+                }
             }
             return stack[0];
         }
 
-        /** Answers how high the stack is then. */
-        private int doStep(int kind, int low, int high, int height) {
-            switch (kind) {
-                case EMPTY:
-                    putEmpty(stack[height]);
-                    return height + 1;
-                case RANGE:
-                    putRange(stack[height], low, high);
-                    return height + 1;
-                case NOT:
-                    complement(stack[height - 1]);
-                    return height;
-                case REPEAT:
-                    repeat(stack[height - 1], stack[height], low, high);
-                    return height;
-                default:
-                    combine(kind, stack[height - 2], stack[height - 1]);
-                    return height - 1;
-            }
-        }
-
-        private void putEmpty(int[] row) {
+        private static void putEmpty(Line line, int[] row) {
             for (int i = 0; i <= line.length; i++) {
                 row[i] = 1;
             }
         }
 
-        private void putRange(int[] row, int first, int last) {
+        private static void putRange(Line line, int[] row, int first, int last) {
             for (int i = 0; i < line.length; i++) {
                 char c = line.characters[i];
                 row[i] = c >= first && c <= last ? 2 : 0;
@@ -352,30 +354,32 @@ public final class DerivativeMatcher {
             row[line.length] = 0;
         }
 
-        private void complement(int[] row) {
+        private static void unite(Line line, int[] row, int[] other) {
             for (int i = 0; i <= line.length; i++) {
-                row[i] = ~row[i] & line.allLengths(i);
+                row[i] |= other[i];
             }
         }
 
-        private void combine(int kind, int[] row, int[] other) {
-            if (kind == JOIN) {
-                join(row, other);
-                return;
-            }
+        private static void intersect(Line line, int[] row, int[] other) {
             for (int i = 0; i <= line.length; i++) {
-                row[i] = kind == EITHER ? row[i] | other[i] : row[i] & other[i];
+                row[i] &= other[i];
             }
         }
 
-        private void join(int[] row, int[] behind) {
+        private static void complement(Line line, int[] row) {
             for (int i = 0; i <= line.length; i++) {
-                row[i] = lengthsThrough(i, row[i], behind) & line.allLengths(i);
+                row[i] = ~row[i] & lengthsUpTo(line.reach(i));
+            }
+        }
+
+        private static void join(Line line, int[] row, int[] behind) {
+            for (int i = 0; i <= line.length; i++) {
+                row[i] = lengthsThrough(line, i, row[i], behind);
             }
         }
 
         /** The lengths of what begins at a place with one of these lengths and goes on with the row. */
-        private int lengthsThrough(int begin, int lengths, int[] behind) {
+        private static int lengthsThrough(Line line, int begin, int lengths, int[] behind) {
             int reach = line.reach(begin);
             int through = 0;
             for (int length = 0; length <= reach; length++) {
@@ -383,40 +387,39 @@ public final class DerivativeMatcher {
                     through |= behind[begin + length] << length;
                 }
             }
-            return through;
+            return through & lengthsUpTo(reach);
         }
 
         /** The row becomes low to high parts that fit it; the spare row is written over. */
-        private void repeat(int[] row, int[] spare, int low, int high) {
-            putEmpty(spare);
-            joinTimes(spare, row, low);
+        private static void repeat(Line line, int[] row, int[] spare, int low, int high) {
+            putEmpty(line, spare);
+            for (int k = 0; k < low; k++) {
+                join(line, spare, row);
+            }
+            // What is joined further may be empty, so that up to so many more parts are meant.
+            int more = high == MANY ? 1 : high - low;
             if (high == MANY) {
-                loop(row);
-                joinTimes(spare, row, 1);
+                loop(line, row);
             } else {
-                addEmpty(row);
-                joinTimes(spare, row, high - low);
+                addEmpty(line, row);
+            }
+            for (int k = 0; k < more; k++) {
+                join(line, spare, row);
             }
             System.arraycopy(spare, 0, row, 0, line.length + 1);
         }
 
-        private void joinTimes(int[] row, int[] behind, int times) {
-            for (int k = 0; k < times; k++) {
-                join(row, behind);
-            }
-        }
-
-        private void addEmpty(int[] row) {
+        private static void addEmpty(Line line, int[] row) {
             for (int i = 0; i <= line.length; i++) {
                 row[i] |= 1;
             }
         }
 
         /** From the right, as what comes behind a first part that is not empty has looped already. */
-        private void loop(int[] row) {
+        private static void loop(Line line, int[] row) {
             for (int i = line.length; i >= 0; i--) {
                 int firstParts = row[i] & ~1;
-                row[i] = (1 | lengthsThrough(i, firstParts, row)) & line.allLengths(i);
+                row[i] = 1 | lengthsThrough(line, i, firstParts, row);
             }
         }
     }
@@ -431,18 +434,15 @@ public final class DerivativeMatcher {
         private final boolean[] unionOpen = new boolean[LEVEL_LIMIT];
         private final boolean[] intersectionOpen = new boolean[LEVEL_LIMIT];
         private int level = 0;
-        private final char[] source;
+        private final char[] source = new char[BUFFER_LIMIT];
         private int length = 0;
         private int at = 0;
         private Program program = new Program();
 
-        Reader(char[] source) {
-            this.source = source;
-        }
-
-        /** Whether the first so many characters of the source are a pattern. */
-        boolean read(int characters) {
-            length = Math.min(characters, source.length);
+        /** Whether the first so many of the characters are a pattern. */
+        boolean read(char[] characters, int size) {
+            length = Math.min(size, BUFFER_LIMIT);
+            System.arraycopy(characters, 0, source, 0, length);
             at = 0;
             program.size = 0;
             level = 0;
@@ -498,7 +498,7 @@ public final class DerivativeMatcher {
                 case '(':
                     return readOpening();
                 case ')':
-                    return readClosing();
+                    return readClosing() && endPiece();
                 case '[':
                     return readClass() && endPiece();
                 case '.':
@@ -567,7 +567,7 @@ public final class DerivativeMatcher {
             at++;
             endUnion();
             level--;
-            return endPiece();
+            return true;
         }
 
         /** Behind an atom: its marks bind before the signs ~ in front of it. */
