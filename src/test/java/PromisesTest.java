@@ -17,6 +17,7 @@ public final class PromisesTest {
         newObject();
         type();
         patternAnswers();
+        wrongThenRight();
         wrongPlaces();
         rightPatterns();
         whatFits();
@@ -125,6 +126,22 @@ public final class PromisesTest {
         checks.due("shortest of that", x.shortest(1, 4), 2);
         checks.due("the words of a wrong one", Checks.pattern(x, 1, "*"), -10);
         checks.due("shortest stays", x.shortest(1, 4), 2);
+    }
+
+    /** A wrong pattern leaves nothing behind that the next reading could meet. */
+    private static void wrongThenRight() {
+        String[] wrong = {"~", "(~", "((~", "a|b&(a|b&~", "(((", "|(|(&(", "[^a", "a{2", "~~(~~["};
+        for (String before : wrong) {
+            DerivativeMatcher x = new DerivativeMatcher();
+            checks.due("pattern " + before, Checks.pattern(x, 0, before), -10 - before.length());
+            checks.due("a pattern behind " + before, Checks.pattern(x, 0, "((a))"), 0);
+            Checks.text(x, "a");
+            checks.due("a behind " + before, x.matches(0), true);
+            Checks.text(x, "b");
+            checks.due("b behind " + before, x.matches(0), false);
+            Checks.text(x, "");
+            checks.due("the empty text behind " + before, x.matches(0), false);
+        }
     }
 
     private static void place(String pattern, int place) {
@@ -277,6 +294,8 @@ public final class PromisesTest {
         fits(".", "a", " ", "~", "|");
         fitsNot(".", "", "ab");
         fits("^-,1", "^-,1");
+        fits("|".repeat(39) + "a", "", "a");
+        fitsNot("|".repeat(39) + "a", "aa", "|");
         fits("~(~a|~b)|c", "c");
         fitsNot("~(~a|~b)|c", "a", "b", "");
     }
