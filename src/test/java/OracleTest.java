@@ -69,7 +69,7 @@ public final class OracleTest {
         private void call() {
             int p = random.nextInt(12) == 0 ? random.nextInt(5) - 2 : random.nextInt(2);
             int n = random.nextInt(12) == 0 ? random.nextInt(9) - 2 : random.nextInt(5);
-            switch (random.nextInt(11)) {
+            switch (random.nextInt(12)) {
                 case 0: case 1:
                     typeAll(new Maker(random).pattern());
                     readPattern(p);
@@ -79,7 +79,7 @@ public final class OracleTest {
                     takeText();
                     break;
                 case 4:
-                    due("matches(" + p + ")", x.matches(p) ? 1 : 0, ok(p) && fits(p, 0, text.length()) ? 1 : 0);
+                    due("matches(" + p + ")", x.matches(p) ? 1 : 0, matches(p) ? 1 : 0);
                     break;
                 case 5:
                     int from = random.nextInt(text.length() + 3) - 1;
@@ -96,6 +96,10 @@ public final class OracleTest {
                     break;
                 case 9:
                     due("difference(" + n + ")", x.difference(n), difference(n));
+                    break;
+                case 10:
+                    // What stands in the buffer waits, while other calls are made.
+                    typeAll(random.nextInt(3) == 0 ? "\u001f\u007f" : randomBuffer(random, random.nextInt(3)));
                     break;
                 default:
                     for (int i = -1; i <= 5; i++) {
@@ -145,6 +149,10 @@ public final class OracleTest {
             text = buffer;
             due("text()", x.text(), text.length());
             buffer = "";
+        }
+
+        private boolean matches(int p) {
+            return ok(p) && fits(p, 0, text.length());
         }
 
         private boolean fits(int p, int i, int j) {

@@ -9,7 +9,7 @@ import java.util.TreeSet;
 public final class PromisesTest {
     private static final int BAD = DerivativeMatcher.BAD;
     private static final int NONE = DerivativeMatcher.NONE;
-    private static final int[] NO_PATTERNS = {-1, 2, 3, Integer.MAX_VALUE, Integer.MIN_VALUE};
+    private static final int[] NO_PATTERNS = Checks.NO_PATTERNS;
     private static final Checks checks = new Checks();
 
     public static void main(String[] args) {
@@ -144,76 +144,71 @@ public final class PromisesTest {
         }
     }
 
-    private static void place(String pattern, int place) {
-        DerivativeMatcher x = new DerivativeMatcher();
-        checks.due("pattern " + pattern, Checks.pattern(x, 0, pattern), place < 0 ? 0 : -10 - place);
-    }
-
     private static void wrongPlaces() {
         String[] wrongAtStart = {"*", "+", "?", "{1}", "}", "]", ")", "*a", ")a", "]a", "}a"};
         for (String pattern : wrongAtStart) {
-            place(pattern, 0);
-            place("a|" + pattern, 2);
-            place("a&" + pattern, 2);
+            checks.wrongAt(0, pattern);
+            checks.wrongAt(2, "a|" + pattern);
+            checks.wrongAt(2, "a&" + pattern);
         }
-        place("(*)", 1);
-        place("(()", 3);
-        place("())", 2);
-        place("a)b(", 1);
-        place("(".repeat(40), 40);
-        place("(".repeat(20) + ")".repeat(20), -1);
-        place("(".repeat(19) + ")".repeat(20), 38);
-        place("~", 1);
-        place("~".repeat(40), 40);
-        place("~".repeat(39) + "a", -1);
-        place("~*", 1);
-        place("~|a", 1);
-        place("~&a", 1);
-        place("(~)", 2);
-        place("(~a|~)", 5);
-        place("~]", 1);
-        place("~(", 2);
-        place("a}", 1);
-        place("a]", 1);
-        place("a{", 2);
-        place("a{}", 2);
-        place("a{,}", 2);
-        place("a{,3}", 2);
-        place("a{a}", 2);
-        place("a{1", 3);
-        place("a{12}", 3);
-        place("a{1a}", 3);
-        place("a{1,", 4);
-        place("a{1,,}", 4);
-        place("a{1,a}", 4);
-        place("a{3,2}", 4);
-        place("a{9,8", 4);
-        place("a{1,2", 5);
-        place("a{1,23}", 5);
-        place("a{1,2,", 5);
-        place("a{ 1}", 2);
-        place("a{2}{", 5);
-        place("a**{1}+?{2,}|*", 13);
-        place("[", 1);
-        place("[]", 1);
-        place("[]a]", 1);
-        place("[^", 2);
-        place("[^]", 2);
-        place("[^]a]", 2);
-        place("[a", 2);
-        place("[a-", 3);
-        place("[a-z", 4);
-        place("[b-a]", 3);
-        place("[^b-a]", 4);
-        place("[a--]", 3);
-        place("[ab-aa]", 4);
-        place("[a-cb-a]", 6);
-        place("[^^-]", -1);
-        place("[^^-]]", 5);
-        place("[~-", 3);
-        place("[~- ]", 3);
-        place("(a|[b)", 6);
-        place("|&|*", 3);
+        checks.wrongAt(1, "(*)");
+        checks.wrongAt(3, "(()");
+        checks.wrongAt(2, "())");
+        checks.wrongAt(1, "a)b(");
+        checks.wrongAt(40, "(".repeat(40));
+        checks.right("(".repeat(20) + ")".repeat(20));
+        checks.wrongAt(38, "(".repeat(19) + ")".repeat(20));
+        checks.wrongAt(1, "~");
+        checks.wrongAt(40, "~".repeat(40));
+        checks.right("~".repeat(39) + "a");
+        checks.wrongAt(1, "~*");
+        checks.wrongAt(1, "~|a");
+        checks.wrongAt(1, "~&a");
+        checks.wrongAt(2, "(~)");
+        checks.wrongAt(5, "(~a|~)");
+        checks.wrongAt(1, "~]");
+        checks.wrongAt(2, "~(");
+        checks.wrongAt(1, "a}");
+        checks.wrongAt(1, "a]");
+        checks.wrongAt(2, "a{");
+        checks.wrongAt(2, "a{}");
+        checks.wrongAt(2, "a{,}");
+        checks.wrongAt(2, "a{,3}");
+        checks.wrongAt(2, "a{a}");
+        checks.wrongAt(3, "a{1");
+        checks.wrongAt(3, "a{12}");
+        checks.wrongAt(3, "a{1a}");
+        checks.wrongAt(4, "a{1,");
+        checks.wrongAt(4, "a{1,,}");
+        checks.wrongAt(4, "a{1,a}");
+        checks.wrongAt(4, "a{3,2}");
+        checks.wrongAt(4, "a{9,8");
+        checks.wrongAt(5, "a{1,2");
+        checks.wrongAt(5, "a{1,23}");
+        checks.wrongAt(5, "a{1,2,");
+        checks.wrongAt(2, "a{ 1}");
+        checks.wrongAt(5, "a{2}{");
+        checks.wrongAt(13, "a**{1}+?{2,}|*");
+        checks.wrongAt(1, "[");
+        checks.wrongAt(1, "[]");
+        checks.wrongAt(1, "[]a]");
+        checks.wrongAt(2, "[^");
+        checks.wrongAt(2, "[^]");
+        checks.wrongAt(2, "[^]a]");
+        checks.wrongAt(2, "[a");
+        checks.wrongAt(3, "[a-");
+        checks.wrongAt(4, "[a-z");
+        checks.wrongAt(3, "[b-a]");
+        checks.wrongAt(4, "[^b-a]");
+        checks.wrongAt(3, "[a--]");
+        checks.wrongAt(4, "[ab-aa]");
+        checks.wrongAt(6, "[a-cb-a]");
+        checks.right("[^^-]");
+        checks.wrongAt(5, "[^^-]]");
+        checks.wrongAt(3, "[~-");
+        checks.wrongAt(3, "[~- ]");
+        checks.wrongAt(6, "(a|[b)");
+        checks.wrongAt(3, "|&|*");
     }
 
     private static void rightPatterns() {
@@ -222,178 +217,159 @@ public final class PromisesTest {
             ".", "^", "-", ",", "1", "a,b", " ", "a b", "^a", "[a]", "[^a]", "[a-z]", "[-]", "[--]", "[---]",
             "[a-a]", "[^^]", "[^-]", "[a^]", "[[]", "[(]", "[|&~*+?{}()[]", "[a-]", "[-a]", "[a-c-e]",
             "[ -~]", "[.]", "\"\\#$%'/:;<=>@_`", "~[a]", "~.", "~[^a]*", "[a]{2}", ".{2,}"};
-        for (String pattern : right) {
-            place(pattern, -1);
-        }
-    }
-
-    private static void fits(String pattern, String... texts) {
-        judge(pattern, texts, true);
-    }
-
-    private static void fitsNot(String pattern, String... texts) {
-        judge(pattern, texts, false);
-    }
-
-    private static void judge(String pattern, String[] texts, boolean want) {
-        DerivativeMatcher x = new DerivativeMatcher();
-        checks.due("pattern " + pattern, Checks.pattern(x, 1, pattern), 0);
-        for (String text : texts) {
-            Checks.text(x, text);
-            checks.due("\"" + text + "\" fits " + pattern, x.matches(1), want);
-        }
+        checks.right(right);
     }
 
     private static void whatFits() {
-        fits("", "");
-        fitsNot("", "a", " ");
-        fits("ab", "ab");
-        fitsNot("ab", "", "a", "b", "ba", "abb", "aab", "AB");
-        fits("a b", "a b");
-        fitsNot("a b", "ab");
-        fits("a|bc", "a", "bc");
-        fitsNot("a|bc", "", "b", "ac", "abc");
-        fits("a|", "", "a");
-        fits("|a|b", "", "a", "b");
-        fitsNot("|a|b", "ab", "c");
-        fits("a.&.b", "ab");
-        fitsNot("a.&.b", "", "a", "aa", "bb");
-        fitsNot("a&", "", "a");
-        fits("a*&", "");
-        fitsNot("a*&", "a");
-        fits("a*&(aa)*&(aaa)*", "", "aaaaaa");
-        fitsNot("a*&(aa)*&(aaa)*", "a", "aa", "aaa", "aaaa", "aaaaa");
-        fits("a|b&c|d", "a", "d");
-        fitsNot("a|b&c|d", "", "b", "c");
-        fits("(a|b)&(c|b)", "b");
-        fitsNot("(a|b)&(c|b)", "a", "c", "");
-        fits("a(b|c&.)d", "abd", "acd");
-        fitsNot("a(b|c&.)d", "ad", "abcd");
-        fits("~a", "", "b", "aa", "ab");
-        fitsNot("~a", "a");
-        fits("~~a", "a");
-        fitsNot("~~a", "", "b", "aa");
-        fits("~()", "a", "ab");
-        fitsNot("~()", "");
-        fits("~a*", "b", "ab", "aba");
-        fitsNot("~a*", "", "a", "aa");
-        fits("(~a)*", "", "a".repeat(2), "b");
-        fitsNot("(~a)*", "a");
-        fits("~ab", "b", "bb", "aab", "abb");
-        fitsNot("~ab", "ab", "", "a");
-        fits("a~b", "a", "aa", "abb");
-        fitsNot("a~b", "ab", "b", "");
-        fits("~(.*ab.*)", "", "ba", "aacb", "bbaa");
-        fitsNot("~(.*ab.*)", "ab", "cabc");
-        fits("~(a|b)", "", "ab", "c");
-        fitsNot("~(a|b)", "a", "b");
-        fits("~a&~b", "", "ab");
-        fitsNot("~a&~b", "a", "b");
-        fits("(a|ab)(c|bcd)d*", "abcd", "ac", "abc", "acd", "abcdd");
-        fitsNot("(a|ab)(c|bcd)d*", "abd", "ad");
-        fits(".", "a", " ", "~", "|");
-        fitsNot(".", "", "ab");
-        fits("^-,1", "^-,1");
-        fits("|".repeat(39) + "a", "", "a");
-        fitsNot("|".repeat(39) + "a", "aa", "|");
-        fits("~(~a|~b)|c", "c");
-        fitsNot("~(~a|~b)|c", "a", "b", "");
+        checks.fits("", "");
+        checks.fitsNot("", "a", " ");
+        checks.fits("ab", "ab");
+        checks.fitsNot("ab", "", "a", "b", "ba", "abb", "aab", "AB");
+        checks.fits("a b", "a b");
+        checks.fitsNot("a b", "ab");
+        checks.fits("a|bc", "a", "bc");
+        checks.fitsNot("a|bc", "", "b", "ac", "abc");
+        checks.fits("a|", "", "a");
+        checks.fits("|a|b", "", "a", "b");
+        checks.fitsNot("|a|b", "ab", "c");
+        checks.fits("a.&.b", "ab");
+        checks.fitsNot("a.&.b", "", "a", "aa", "bb");
+        checks.fitsNot("a&", "", "a");
+        checks.fits("a*&", "");
+        checks.fitsNot("a*&", "a");
+        checks.fits("a*&(aa)*&(aaa)*", "", "aaaaaa");
+        checks.fitsNot("a*&(aa)*&(aaa)*", "a", "aa", "aaa", "aaaa", "aaaaa");
+        checks.fits("a|b&c|d", "a", "d");
+        checks.fitsNot("a|b&c|d", "", "b", "c");
+        checks.fits("(a|b)&(c|b)", "b");
+        checks.fitsNot("(a|b)&(c|b)", "a", "c", "");
+        checks.fits("a(b|c&.)d", "abd", "acd");
+        checks.fitsNot("a(b|c&.)d", "ad", "abcd");
+        checks.fits("~a", "", "b", "aa", "ab");
+        checks.fitsNot("~a", "a");
+        checks.fits("~~a", "a");
+        checks.fitsNot("~~a", "", "b", "aa");
+        checks.fits("~()", "a", "ab");
+        checks.fitsNot("~()", "");
+        checks.fits("~a*", "b", "ab", "aba");
+        checks.fitsNot("~a*", "", "a", "aa");
+        checks.fits("(~a)*", "", "a".repeat(2), "b");
+        checks.fitsNot("(~a)*", "a");
+        checks.fits("~ab", "b", "bb", "aab", "abb");
+        checks.fitsNot("~ab", "ab", "", "a");
+        checks.fits("a~b", "a", "aa", "abb");
+        checks.fitsNot("a~b", "ab", "b", "");
+        checks.fits("~(.*ab.*)", "", "ba", "aacb", "bbaa");
+        checks.fitsNot("~(.*ab.*)", "ab", "cabc");
+        checks.fits("~(a|b)", "", "ab", "c");
+        checks.fitsNot("~(a|b)", "a", "b");
+        checks.fits("~a&~b", "", "ab");
+        checks.fitsNot("~a&~b", "a", "b");
+        checks.fits("(a|ab)(c|bcd)d*", "abcd", "ac", "abc", "acd", "abcdd");
+        checks.fitsNot("(a|ab)(c|bcd)d*", "abd", "ad");
+        checks.fits(".", "a", " ", "~", "|");
+        checks.fitsNot(".", "", "ab");
+        checks.fits("^-,1", "^-,1");
+        checks.fits("|".repeat(39) + "a", "", "a");
+        checks.fitsNot("|".repeat(39) + "a", "aa", "|");
+        checks.fits("~(~a|~b)|c", "c");
+        checks.fitsNot("~(~a|~b)|c", "a", "b", "");
     }
 
     private static void classes() {
-        fits("[a-c]", "a", "b", "c");
-        fitsNot("[a-c]", "", "d", "`", "-", "ab");
-        fits("[^a-c]", "d", "-", " ", "~", "^");
-        fitsNot("[^a-c]", "", "a", "b", "c", "dd", "da");
-        fits("[a-]", "a", "-");
-        fitsNot("[a-]", "b", "]");
-        fits("[-a]", "a", "-");
-        fitsNot("[-a]", "b", "^");
-        fits("[a-c-e]", "a", "b", "c", "-", "e");
-        fitsNot("[a-c-e]", "d", ",");
-        fits("[a-c--0]", "a", "b", "c", "-", ".", "/", "0");
-        fitsNot("[a-c--0]", ",", "1", "d");
-        fits("[--]", "-");
-        fitsNot("[--]", "a", "--");
-        fits("[---]", "-");
-        fits("[--0]", "-", ".", "0");
-        fitsNot("[--0]", ",", "1");
-        fits("[^-a]", "b", "^", "_", "`");
-        fitsNot("[^-a]", "-", "a");
-        fits("[^--a]", ",", "b");
-        fitsNot("[^--a]", "-", "Z", "a");
-        fits("[a^]", "a", "^");
-        fitsNot("[a^]", "b");
-        fits("[^^]", "a");
-        fitsNot("[^^]", "^", "");
-        fits("[^^-b]", "]", "c", "-");
-        fitsNot("[^^-b]", "^", "_", "`", "a", "b");
-        fits("[[-]", "[", "-");
-        fits("[.]", ".");
-        fitsNot("[.]", "a");
-        fits("[|&~*+?{}()[]", "|", "&", "~", "*", "+", "?", "{", "}", "(", ")", "[");
-        fitsNot("[|&~*+?{}()[]", "]", "a");
-        fits("[ -~]", " ", "~", "]");
-        fitsNot("[^ -~]", " ", "~", "]", "");
-        fits("~[a]", "", "b", "aa");
-        fitsNot("~[a]", "a");
-        fits("[ab]*c", "c", "abbac");
-        fitsNot("[ab]*c", "", "acc");
-        fits("[a-]z", "az", "-z");
-        fitsNot("[a-]z", "bz");
+        checks.fits("[a-c]", "a", "b", "c");
+        checks.fitsNot("[a-c]", "", "d", "`", "-", "ab");
+        checks.fits("[^a-c]", "d", "-", " ", "~", "^");
+        checks.fitsNot("[^a-c]", "", "a", "b", "c", "dd", "da");
+        checks.fits("[a-]", "a", "-");
+        checks.fitsNot("[a-]", "b", "]");
+        checks.fits("[-a]", "a", "-");
+        checks.fitsNot("[-a]", "b", "^");
+        checks.fits("[a-c-e]", "a", "b", "c", "-", "e");
+        checks.fitsNot("[a-c-e]", "d", ",");
+        checks.fits("[a-c--0]", "a", "b", "c", "-", ".", "/", "0");
+        checks.fitsNot("[a-c--0]", ",", "1", "d");
+        checks.fits("[--]", "-");
+        checks.fitsNot("[--]", "a", "--");
+        checks.fits("[---]", "-");
+        checks.fits("[--0]", "-", ".", "0");
+        checks.fitsNot("[--0]", ",", "1");
+        checks.fits("[^-a]", "b", "^", "_", "`");
+        checks.fitsNot("[^-a]", "-", "a");
+        checks.fits("[^--a]", ",", "b");
+        checks.fitsNot("[^--a]", "-", "Z", "a");
+        checks.fits("[a^]", "a", "^");
+        checks.fitsNot("[a^]", "b");
+        checks.fits("[^^]", "a");
+        checks.fitsNot("[^^]", "^", "");
+        checks.fits("[^^-b]", "]", "c", "-");
+        checks.fitsNot("[^^-b]", "^", "_", "`", "a", "b");
+        checks.fits("[[-]", "[", "-");
+        checks.fits("[.]", ".");
+        checks.fitsNot("[.]", "a");
+        checks.fits("[|&~*+?{}()[]", "|", "&", "~", "*", "+", "?", "{", "}", "(", ")", "[");
+        checks.fitsNot("[|&~*+?{}()[]", "]", "a");
+        checks.fits("[ -~]", " ", "~", "]");
+        checks.fitsNot("[^ -~]", " ", "~", "]", "");
+        checks.fits("~[a]", "", "b", "aa");
+        checks.fitsNot("~[a]", "a");
+        checks.fits("[ab]*c", "c", "abbac");
+        checks.fitsNot("[ab]*c", "", "acc");
+        checks.fits("[a-]z", "az", "-z");
+        checks.fitsNot("[a-]z", "bz");
     }
 
     private static void loops() {
-        fits("a*", "", "a", "aaaa", "a".repeat(24));
-        fitsNot("a*", "b", "aab");
-        fits("a+", "a", "aa");
-        fitsNot("a+", "", "ab");
-        fits("a?", "", "a");
-        fitsNot("a?", "aa", "b");
-        fits("a{0}", "");
-        fitsNot("a{0}", "a");
-        fits("a{1}", "a");
-        fitsNot("a{1}", "", "aa");
-        fits("a{9}", "a".repeat(9));
-        fitsNot("a{9}", "a".repeat(8), "a".repeat(10), "");
-        fits("a{2,}", "aa", "aaa", "a".repeat(24));
-        fitsNot("a{2,}", "", "a", "aab");
-        fits("a{0,}", "", "a", "aa");
-        fits("a{2,4}", "aa", "aaa", "aaaa");
-        fitsNot("a{2,4}", "", "a", "aaaaa");
-        fits("a{0,2}", "", "a", "aa");
-        fitsNot("a{0,2}", "aaa");
-        fits("a{0,0}", "");
-        fitsNot("a{0,0}", "a");
-        fits("a{3,3}", "aaa");
-        fitsNot("a{3,3}", "aa", "aaaa");
-        fits("(ab|c)*", "", "abc", "cabab");
-        fitsNot("(ab|c)*", "a", "ba");
-        fits("ab*", "a", "abb");
-        fitsNot("ab*", "abab", "");
-        fits("(a?){3}", "", "a", "aaa");
-        fitsNot("(a?){3}", "aaaa");
-        fits("a{2}{3}", "aaaaaa");
-        fitsNot("a{2}{3}", "aaaaa", "aa", "aaa");
-        fits("(aa|aaa){2,3}", "aaaa", "aaaaa", "a".repeat(9));
-        fitsNot("(aa|aaa){2,3}", "aaa", "a".repeat(10));
-        fits("a{2}*", "", "aa", "aaaa");
-        fitsNot("a{2}*", "a", "aaa");
-        fits("a{2,}?", "", "aa", "aaa");
-        fitsNot("a{2,}?", "a");
-        fits("a?+", "", "aa");
-        fits("a+?", "", "aa");
-        fits("()*", "");
-        fitsNot("()*", "a");
-        fits("(|a)+", "", "aa");
-        fits("(~a){2}", "", "aa", "b", "ab");
-        fitsNot("(~a){2}", "a");
-        fits("(a&b)*", "");
-        fits("(a&b){0}", "");
-        fits("(a&b)?", "");
-        fitsNot("(a&b)+", "", "a", "b");
-        fits("a{5}{4}{1}", "a".repeat(20));
-        fitsNot("a{5}{4}{1}", "a".repeat(19), "a".repeat(21));
+        checks.fits("a*", "", "a", "aaaa", "a".repeat(24));
+        checks.fitsNot("a*", "b", "aab");
+        checks.fits("a+", "a", "aa");
+        checks.fitsNot("a+", "", "ab");
+        checks.fits("a?", "", "a");
+        checks.fitsNot("a?", "aa", "b");
+        checks.fits("a{0}", "");
+        checks.fitsNot("a{0}", "a");
+        checks.fits("a{1}", "a");
+        checks.fitsNot("a{1}", "", "aa");
+        checks.fits("a{9}", "a".repeat(9));
+        checks.fitsNot("a{9}", "a".repeat(8), "a".repeat(10), "");
+        checks.fits("a{2,}", "aa", "aaa", "a".repeat(24));
+        checks.fitsNot("a{2,}", "", "a", "aab");
+        checks.fits("a{0,}", "", "a", "aa");
+        checks.fits("a{2,4}", "aa", "aaa", "aaaa");
+        checks.fitsNot("a{2,4}", "", "a", "aaaaa");
+        checks.fits("a{0,2}", "", "a", "aa");
+        checks.fitsNot("a{0,2}", "aaa");
+        checks.fits("a{0,0}", "");
+        checks.fitsNot("a{0,0}", "a");
+        checks.fits("a{3,3}", "aaa");
+        checks.fitsNot("a{3,3}", "aa", "aaaa");
+        checks.fits("(ab|c)*", "", "abc", "cabab");
+        checks.fitsNot("(ab|c)*", "a", "ba");
+        checks.fits("ab*", "a", "abb");
+        checks.fitsNot("ab*", "abab", "");
+        checks.fits("(a?){3}", "", "a", "aaa");
+        checks.fitsNot("(a?){3}", "aaaa");
+        checks.fits("a{2}{3}", "aaaaaa");
+        checks.fitsNot("a{2}{3}", "aaaaa", "aa", "aaa");
+        checks.fits("(aa|aaa){2,3}", "aaaa", "aaaaa", "a".repeat(9));
+        checks.fitsNot("(aa|aaa){2,3}", "aaa", "a".repeat(10));
+        checks.fits("a{2}*", "", "aa", "aaaa");
+        checks.fitsNot("a{2}*", "a", "aaa");
+        checks.fits("a{2,}?", "", "aa", "aaa");
+        checks.fitsNot("a{2,}?", "a");
+        checks.fits("a?+", "", "aa");
+        checks.fits("a+?", "", "aa");
+        checks.fits("()*", "");
+        checks.fitsNot("()*", "a");
+        checks.fits("(|a)+", "", "aa");
+        checks.fits("(~a){2}", "", "aa", "b", "ab");
+        checks.fitsNot("(~a){2}", "a");
+        checks.fits("(a&b)*", "");
+        checks.fits("(a&b){0}", "");
+        checks.fits("(a&b)?", "");
+        checks.fitsNot("(a&b)+", "", "a", "b");
+        checks.fits("a{5}{4}{1}", "a".repeat(20));
+        checks.fitsNot("a{5}{4}{1}", "a".repeat(19), "a".repeat(21));
     }
 
     private static void text() {
@@ -654,12 +630,12 @@ public final class PromisesTest {
             checks.due("pattern " + pattern, Checks.pattern(x, 0, pattern), 0);
             Checks.pattern(x, 1, pattern);
             Checks.text(x, "a".repeat(24));
-            for (int call = 0; call < 100; call++) {
+            for (int turn = 0; turn < 65; turn++) {
                 x.matches(0);
-                x.find(0, call % 25);
+                x.find(0, turn % 25);
                 x.count(0);
                 x.earliest(0);
-                x.shortest(0, call % 5);
+                x.shortest(0, turn % 5);
                 checks.due("difference of alike patterns", x.difference(4), NONE);
             }
         }
