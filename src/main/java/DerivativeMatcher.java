@@ -305,7 +305,7 @@ public final class DerivativeMatcher {
         /** For each place the lengths of the parts that begin there and fit; good until the next run. */
         int[] run(Program program, Line line) {
             int height = 0;
-            for (int step = 0; step < program.size; step++) {
+            for (int step = 0; step < program.size && hasRowsFor(program.kinds[step], height); step++) {
                 int low = program.lows[step];
                 int high = program.highs[step];
                 switch (program.kinds[step]) {
@@ -338,6 +338,22 @@ public final class DerivativeMatcher {
                 }
             }
             return stack[0];
+        }
+
+        /** No program that was read lacks values or rows; yet each index is looked at before it is used. */
+        private static boolean hasRowsFor(int kind, int height) {
+            return height >= valuesTakenBy(kind) && height < STACK_LIMIT;
+        }
+
+        private static int valuesTakenBy(int kind) {
+            switch (kind) {
+                case EMPTY: case RANGE:
+                    return 0;
+                case NOT: case REPEAT:
+                    return 1;
+                default:
+                    return 2;
+            }
         }
 
         private static void putEmpty(Line line, int[] row) {

@@ -31,6 +31,8 @@ public final class PromisesTest {
         shortest();
         difference();
         word();
+        deepestStack();
+        exampleOfReadme();
         dearestCalls();
         checks.end();
     }
@@ -620,6 +622,35 @@ public final class PromisesTest {
     }
 
     /** The dearest patterns, as often as an object has to bear: they must end, and throw nothing. */
+    /** Three values wait at each of the levels; what comes behind them shows that none was left out. */
+    private static void deepestStack() {
+        String deep = "(|&".repeat(9) + "a*" + ")".repeat(9);
+        checks.fits(deep + "ab", "ab");
+        checks.fitsNot(deep + "ab", "", "a", "b", "aab", "ba");
+        String telling = "(|.&".repeat(7) + "[ab]" + ")".repeat(7);
+        checks.fits(telling, "", "a", "b");
+        checks.fitsNot(telling, "c", "aa", "ab");
+        DerivativeMatcher x = Checks.made(deep + "ab", telling, "");
+        checks.due("shortest of the deepest", x.shortest(0, 4), 2);
+        checks.due("word of the deepest", Checks.word(x), "ab");
+        checks.due("difference of the deepest", x.difference(4), 0);
+    }
+
+    private static void exampleOfReadme() {
+        DerivativeMatcher x = new DerivativeMatcher();
+        checks.due("README: pattern", Checks.pattern(x, 0, "a+b?"), 0);
+        checks.due("README: text", Checks.text(x, "caab"), 4);
+        checks.due("README: matches", x.matches(0), false);
+        checks.due("README: find", x.find(0, 0), 104);
+        checks.due("README: count", x.count(0), 1);
+        checks.due("README: earliest", x.earliest(0), 2);
+        checks.due("README: shortest", x.shortest(0, 4), 1);
+        checks.due("README: word", x.word(0), 'a');
+        checks.due("README: difference", x.difference(4), 0);
+        checks.due("README: wrong pattern", Checks.pattern(x, 0, "a{3,2}"), -14);
+        checks.due("README: pattern that breaks off", Checks.pattern(x, 0, "(a"), -12);
+    }
+
     private static void dearestCalls() {
         String[] dear = {"(".repeat(19) + "a" + ")".repeat(19), "a" + "{9}".repeat(13), ".*".repeat(20),
             "~".repeat(39) + "a", "|&(".repeat(9) + "~a*" + ")".repeat(9), "|&".repeat(20),
